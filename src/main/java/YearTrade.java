@@ -205,7 +205,7 @@ public final class YearTrade {
         if (!buys && what != 10 && (what < 0 || what >= n)) return NO_PLACE;
         fair.sell(book, theLaw, people);
         if (buys) return fair.pays(people, buyer);
-        return what == 10 ? fair.together(people) : fair.gets[what];
+        return what == 10 ? fair.together(people) : fair.getsAt(what);
     }
 
     public int ring(int n, int what) {
@@ -214,7 +214,7 @@ public final class YearTrade {
         if (!fair.readRing(book, text)) return NOT_SO;
         if (what != 10 && (what < 0 || what >= n)) return NO_PLACE;
         fair.turn(book, theLaw);
-        return what == 10 ? fair.changed() : fair.gets[what];
+        return what == 10 ? fair.changed() : fair.getsAt(what);
     }
 
     public long forged(int y, int what) {
@@ -612,7 +612,6 @@ public final class YearTrade {
         void copy(Law other) {
             System.arraycopy(other.ops, 0, ops, 0, LAW_TEXT);
             System.arraycopy(other.args, 0, args, 0, LAW_TEXT);
-            size = other.size;
             System.arraycopy(other.letter, 0, letter, 0, CLAUSES);
             System.arraycopy(other.amountAt, 0, amountAt, 0, CLAUSES);
             System.arraycopy(other.conditionAt, 0, conditionAt, 0, CLAUSES);
@@ -1400,6 +1399,10 @@ public final class YearTrade {
                 }
                 left &= ~(1 << gets[i]);
             }
+        }
+
+        int getsAt(int i) {
+            return i >= 0 && i < length && i < PEOPLE ? gets[i] : NO_PLACE;
         }
 
         int together(int people) {

@@ -90,7 +90,21 @@ public final class ModelTest {
             for (int p = 0; p < people; p++) if (below(8) > 0) person(p);
             int years = 3 + below(14);
             for (int i = 0; i < years; i++) year();
-            for (int i = 0; i < 130 && wrong == 0; i++) step();
+            for (int i = 0; i < 130 && wrong == 0; i++) {
+                step();
+                if (below(30) == 0) look();
+            }
+            look();
+        }
+
+        /** Everything that can be seen of YEARS and PEOPLE. */
+        void look() {
+            for (int y : m.toldYears()) {
+                for (int w = 0; w < 36; w++) due("yearIs(" + y + ", " + w + ")", x.yearIs(y, w), m.yearIs(y, w));
+            }
+            for (int p = 0; p < people; p++) {
+                for (int w = 0; w < 5; w++) due("personIs(" + p + ", " + w + ")", x.personIs(p, w), m.personIs(p, w));
+            }
         }
 
         void person(int p) {
@@ -163,6 +177,25 @@ public final class ModelTest {
             return mutated(b.toString());
         }
 
+        /** ACTS that could be done as they were made, then mixed. */
+        String toAndFro() {
+            State s = m.now.copy();
+            List<String> acts = new ArrayList<>();
+            for (int i = 0; i < 200 && acts.size() < 2 + below(5); i++) {
+                int y = someYear();
+                if (!s.year(y)) continue;
+                int p = s.owner[y], q = s.holder[y] == -2 ? below(people) : s.holder[y];
+                if (p == q) continue;
+                char sign = s.holder[y] == -2 ? ">]=".charAt(below(3)) : '[';
+                int price = sign == '=' || sign == '[' ? 0 : below(3) == 0 ? s.coins[q] % 10000 : below(12);
+                if (m.act(s, new Act(y, p, sign, q, price))) {
+                    acts.add(y + "" + (char) ('a' + p) + sign + (char) ('a' + q) + (sign == '>' || sign == ']' ? "" + price : ""));
+                }
+            }
+            java.util.Collections.shuffle(acts, random);
+            return acts.isEmpty() ? act() : String.join(";", acts);
+        }
+
         String law() {
             StringBuilder b = new StringBuilder();
             int n = below(30) == 0 ? 18 : 1 + below(6);
@@ -226,7 +259,7 @@ public final class ModelTest {
                 case 28: { int k = odd(17); due("dealtIn(" + k + ")", x.dealtIn(k), m.dealtIn(k)); break; }
                 case 29: { int k = below(8) == 0 ? odd(101) : 1 + below(2); due("days(" + k + ")", x.days(k), m.days(k)); break; }
                 case 30: { int k = 1 + odd(9), w = below(2) == 0 ? odd(2) : 10 + odd(people); due("tried(" + k + ", " + w + ")", x.tried(k, w), m.tried(k, w)); break; }
-                case 31: { n = text(deals(below(8) == 0 ? 8 : 6)); int w = odd(7) - 1; due("inOrder(" + n + ", " + w + ")", x.inOrder(n, w), m.inOrder(n, w)); break; }
+                case 31: { n = text(below(2) == 0 ? toAndFro() : deals(below(8) == 0 ? 8 : 6)); int w = below(3) == 0 ? -1 : odd(7) - 1; due("inOrder(" + n + ", " + w + ")", x.inOrder(n, w), m.inOrder(n, w)); break; }
                 case 32: { int w = odd(3); due("common(" + p + ", " + q + ", " + w + ")", x.common(p, q, w), m.common(p, q, w)); break; }
                 case 33: { int w = odd(5) - 1; due("linked(" + p + ", " + q + ", " + w + ")", x.linked(p, q, w), m.linked(p, q, w)); break; }
                 case 34: { int a = odd(dates), b = odd(dates); due("regime(" + p + ", " + a + ", " + b + ")", x.regime(p, a, b), m.regime(p, a, b)); break; }

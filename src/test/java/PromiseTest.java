@@ -729,6 +729,12 @@ public final class PromiseTest {
         due("19: eight", ring(10, 10, 11, 12, 13, 14, 15, 16, 17), 2);
         due("19: the last gets the first one's", ring(7, 10, 11, 12, 13, 14, 15, 16, 17), 0);
         due("19: place 8", ring(8, 10, 11, 12, 13, 14, 15, 16, 17), -3);
+        law("v9(y=[p+1]%8+10)");
+        due("19: a ring of eight", ring(10, 10, 11, 12, 13, 14, 15, 16, 17), 8);
+        due("19: each the next one's", ring(6, 10, 11, 12, 13, 14, 15, 16, 17), 7);
+        law("v0(1=1)");
+        due("19: eight rounds", ring(10, 10, 11, 12, 13, 14, 15, 16, 17), 0);
+        due("19: the last one alone", ring(7, 10, 11, 12, 13, 14, 15, 16, 17), 7);
         due("19: alone", ring(0, 10), 0);
         due("19: place 1 of 1", ring(1, 10), -3);
         due("19: place -1", ring(-1, 10), -3);
@@ -748,6 +754,17 @@ public final class PromiseTest {
     }
 
     private static void forged() {
+        people(1);
+        x.year(0, 99, 0, 0, 0, false, 9);
+        x.year(1, 99, 0, 0, 0, false, 9);
+        x.year(2, 99, 0, 0, 0, false, 8);
+        due("20: the last date, the last mark", x.forged(0, 0), 1);
+        due("20: ways", x.forged(0, 1), 1);
+        due("20: not the last mark", x.forged(0, 2), 0);
+        due("20: the other one", x.forged(2, 2), 1);
+        x.year(1, 99, 0, 0, 0, false, 7);
+        due("20: the last mark, too", x.forged(0, 2), 1);
+        due("20: three ways", x.forged(0, 1), 3);
         people(1);
         due("20: none", x.forged(0, 0), 0);
         due("20: one way", x.forged(0, 1), 1);
@@ -892,11 +909,31 @@ public final class PromiseTest {
         due("24: the tape is empty", x.count(3), 0);
         for (int i = 0; i < 13; i++) x.feed(0, 0, 0, 0, 0);
         due("24: 161", x.inOrder(161, -1), -1);
-        people(5, 5);
+        waysBack();
+    }
+
+    private static void order(String why, String deals, int... row) {
+        for (int i = 0; i < row.length; i++) due("24: " + why + ", place " + i, inOrder(deals, i), row[i]);
+    }
+
+    /** The lowest ACT leads nowhere at first: what it has done must be as before when the next one is tried. */
+    private static void waysBack() {
+        people(0, 10, 0, 10);
         plainYear(0, 5, 0);
-        law("n(h=2)");
-        due("24: undone on the way", inOrder("0a[b;0a]b5;0a=b", 0), 1);
-        due("24: undone on the way", inOrder("0a[b;0a]b5;0a=b", 2), 2);
+        plainYear(1, 5, 2);
+        order("the owner is as before", "0a=b;0a=c;0c=a", 1, 2, 0);
+        order("it is not pawned, as before", "0a]b0;0a=c;0c=a", 1, 2, 0);
+        order("the buyer's coins are as before", "0a>b10;1c>b10;1b>d10", 1, 2, 0);
+        order("fetched only once it is pawned", "0a[b;0a]b10", 1, 0);
+        law("n(y=1&c>0)");
+        order("the seller's coins are as before", "0a>b10;1c=a", 1, 0);
+        law("n(h=2&p=2)");
+        order("the hands are as before", "0a=b;0a=c;0c=a", 1, 2, 0);
+        law("n(h=9)");
+        deals("0a]b5");
+        order("what must be paid is as before", "0a[b;1c>a5;1a>d10", 1, 2, 0);
+        due("24: nothing is done", x.yearIs(0, 8), 5);
+        due("24: nothing is paid", x.personIs(0, 0), 5);
     }
 
     private static void common() {
@@ -990,6 +1027,10 @@ public final class PromiseTest {
         x.person(5, 5);
         plainYear(1, 1, 5);
         deals("0a=b");
+        plainYear(39, 7, 1);
+        yes("22: the same pawn by another liver", x.year(39, 1, 1, 3, 1, true, 4));
+        due("30: another hand", x.yearIs(39, 20), 1);
+        deals("39b]a0;39b[a;39b=a;39a]b10");
         due("22: a fall", x.days(3), 1);
         text("left");
         yes("30: undone", x.undo());
@@ -1005,6 +1046,10 @@ public final class PromiseTest {
         due("30: owner", x.yearIs(0, 6), 0);
         due("30: hands", x.yearIs(0, 9), 1);
         due("30: what must be paid", x.yearIs(39, 8), 10);
+        due("30: the hand from before", x.yearIs(39, 20), 0);
+        due("30: hands from before", x.yearIs(39, 9), 1);
+        int[] before = {1, 0, 0, 0, 0, 0, 0, 1, 10, 1};
+        for (int what = 0; what < 10; what++) due("30: year 39, " + what, x.yearIs(39, what), before[what]);
         due("22: the same fall again", x.days(1), 1);
         yes("30: once more", x.undo());
         due("30: pawns again", x.count(6), 1);
@@ -1020,6 +1065,9 @@ public final class PromiseTest {
         due("31: the first one", check(0, 0, 0), 0);
         due("31: not told is 0", check(2, 1, 0), 1);
         due("31: the highest byte counts", check(2, 0, 0x01000001), 2);
+        due("31: the second byte counts", check(2, 0, 0x00010001), 2);
+        due("31: the third byte counts", check(2, 0, 0x00000101), 2);
+        due("31: the signs, too", check(2, 0, 0x81000001), 2);
         due("31: all", check(new int[40]), 0);
         text("left");
         due("31: n 41", x.check(41), -2);
