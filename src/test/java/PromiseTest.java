@@ -929,6 +929,8 @@ public final class PromiseTest {
         order("the seller's coins are as before", "0a>b10;1c=a", 1, 0);
         law("n(h=2&p=2)");
         order("the hands are as before", "0a=b;0a=c;0c=a", 1, 2, 0);
+        law("n(h=0)");
+        order("no hand is lost", "0a=b;0a=c;0c=a", 1, 2, 0);
         law("n(h=9)");
         deals("0a]b5");
         order("what must be paid is as before", "0a[b;1c>a5;1a>d10", 1, 2, 0);
