@@ -12,6 +12,7 @@ public final class DayBoundaries extends Sentences {
         triedAsDone();
         seeds();
         keptAll();
+        keptEight();
         undone();
         checkBounds();
         checkNumbers();
@@ -290,6 +291,10 @@ public final class DayBoundaries extends Sentences {
         triedIs(1, 10, -1);
         year(0, 0, 7);
         triedIs(1, 17, 1);
+        says("(COINS of the last of eight, too)");
+        x.person(7, 5);
+        law("f10(1=1);g1(1=1)", 2);
+        triedIs(3, 1, 8);
         says("(of nobody)");
         triedIs(1, 0, 0);
         triedIs(1, 1, 0);
@@ -389,6 +394,25 @@ public final class DayBoundaries extends Sentences {
         personIs(0, 0, 13);
         personIs(7, 0, -1);
         days(1, 1);
+    }
+
+    private static void keptEight() {
+        says("KEPT: PEOPLE, YEARS (all eight, all forty)", 1, 2, 3, 4, 5, 6, 7, 8);
+        for (int y = 0; y < 40; y++) yes("year", x.year(y, y, y % 8, y, 0, y % 2 == 0, y % 10));
+        due("keep", x.keep(), 40);
+        for (int p = 0; p < 8; p++) x.person(p, 99);
+        for (int y = 0; y < 40; y++) yes("year", x.year(y, 99 - y, (y + 1) % 8, 99 - y, 0, y % 2 == 1, (y + 1) % 10));
+        yes("undo", x.undo());
+        for (int p = 0; p < 8; p++) personIs(p, 0, 1 + p);
+        for (int y = 0; y < 40; y++) {
+            yearIs(y, 0, y);
+            yearIs(y, 1, y % 8);
+            yearIs(y, 2, y);
+            yearIs(y, 4, (y + 1) % 2);
+            yearIs(y, 5, y % 10);
+            yearIs(y, 6, y % 8);
+            yearIs(y, 20, y % 8);
+        }
     }
 
     private static void undone() {

@@ -182,6 +182,10 @@ public final class FairBoundaries extends Sentences {
         sold(2, 0, 1, 0);
         yearIs(0, 6, 0);
         count(7, 0);
+        says("(z is not told where v is asked)", 0, 0);
+        year(0, 0, 0);
+        law("v5+z(z=0)", 1);
+        sold(2, 10, 5, 0);
         says("to told PEOPLE (bits) (nobody of them)", 0, 0);
         year(0, 0, 0);
         law("v9(1=1)", 1);
@@ -392,6 +396,11 @@ public final class FairBoundaries extends Sentences {
         turns(new int[] {12, 11, 10}, 2, 1, 0);
         law("v5(p=0);v5(p=1&y=10);v7(p=1&y=11)", 3);
         turns(new int[] {11, 10}, 0, 1);
+        says("(z is not told where v is asked)", 0, 0);
+        year(0, 0, 0);
+        year(1, 0, 1);
+        law("v9(z=0&p=0&y=1);v9(z=0&p=1&y=0)", 2);
+        turns(new int[] {0, 1}, 1, 0);
         says("(its own is worth most to each)", 0, 0);
         year(0, 0, 0);
         year(1, 0, 1);

@@ -71,14 +71,16 @@ public final class LanguageTest {
     private static void line(int number, String line) {
         if (!line.chars().allMatch(sign -> sign > 0 && sign < 127)) fault("rule 4, line " + number + ": " + line);
         String code = line.replaceAll("'[^']'", "0").replaceAll("\"[^\"]*\"", "0");
-        if (code.trim().startsWith("/*") || code.trim().startsWith("*")) return;
-        String words = "\\b(throw|throws|try|catch|finally|synchronized|assert|import|package|equals|hashCode|toString|instanceof|var|double|float)\\b|->|::";
-        if (Pattern.compile(words).matcher(code).find()) fault("rules 2 to 6, line " + number + ": " + line);
-        Matcher made = Pattern.compile("\\bnew\\b").matcher(code);
-        if (made.find() && !code.contains(" final ")) fault("rule 12: made outside a constructor, line " + number + ": " + line);
-        Matcher library = Pattern.compile("\\b(Integer|Long|Math|System|String|Arrays)\\.(\\w+)").matcher(code);
+        if (code.trim().matches("(/\\*|\\*|//).*")) return;
+        Matcher imported = Pattern.compile("^import (.*);$").matcher(code);
+        if (imported.find() && !imported.group(1).matches("java\\.util\\.(ArrayList|List|Arrays|Iterator)")) fault("rule 4, line " + number + ": " + line);
+        String words = "\\b(throw|throws|try|catch|finally|synchronized|assert|package|hashCode|var)\\b|::";
+        if (Pattern.compile(words).matcher(code).find()) fault("rules 1 to 6, line " + number + ": " + line);
+        if (code.contains("->") && !code.matches("\\s*(case .*|default) ->.*")) fault("rule 2, line " + number + ": " + line);
+        Matcher library = Pattern.compile("\\b(Integer|Long|Math|System|String|Arrays|Thread|Double|Float)\\.(\\w+)").matcher(code);
         while (library.find()) {
-            if (!List.of("bitCount", "max", "min", "arraycopy").contains(library.group(2))) fault("rule 4, line " + number + ": " + line);
+            if (!List.of("bitCount", "max", "min", "abs", "compare", "floorDiv", "floorMod", "MAX_VALUE", "MIN_VALUE",
+                "arraycopy", "copyOf", "copyOfRange", "fill").contains(library.group(2))) fault("rule 4, line " + number + ": " + line);
         }
     }
 

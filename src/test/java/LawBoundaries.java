@@ -289,6 +289,8 @@ public final class LawBoundaries extends Sentences {
         law(SIXTEEN.substring(0, 104), 15);
         law("n(1=2);".repeat(15) + "v5(1=1)", 16);
         due("the sixteenth counts", x.worth(0, 0), 5);
+        law("n(1/0=1);".repeat(15) + "v7(1=1)", 16);
+        due("and its own E", x.worth(0, 0), 7);
         law("n(1=2);".repeat(15) + "n(1=1)", 16);
         due("the sixteenth counts", x.may(0, 0, 0), 0);
         says("4 a 17th CLAUSE, at its letter");
@@ -428,6 +430,15 @@ public final class LawBoundaries extends Sentences {
         holds("!(1=2&1=2)", true);
         holds("!!1=1", true);
         holds("!!!1=1", false);
+        says("!PIECE (of < > =)", 0);
+        year(0, 0, 0);
+        for (String sign : "< > =".split(" ")) {
+            for (int a = 1; a <= 3; a++) {
+                boolean without = sign.equals("<") ? a < 2 : sign.equals(">") ? a > 2 : a == 2;
+                holds("!" + a + sign + "2", !without);
+                holds("!!" + a + sign + "2", without);
+            }
+        }
     }
 
     private static void lettersOfYears() {
@@ -466,6 +477,9 @@ public final class LawBoundaries extends Sentences {
         law("io(1=1)", 1);
         days(1, 0);
         yearIs(0, 8, 2);
+        law("i10+p(1=1)", 1);
+        days(1, 0);
+        yearIs(0, 8, 14);
     }
 
     private static void lettersOfPeople() {
@@ -513,6 +527,8 @@ public final class LawBoundaries extends Sentences {
         skilled(39, 1, 4095);
         due("all", x.worth(0, 1), 4);
         due("39 to a", x.worth(39, 0), 4);
+        deals("1a=b", 1);
+        due("not what it had", x.worth(0, 0), 2);
     }
 
     private static void lettersNotTold() {
@@ -564,6 +580,9 @@ public final class LawBoundaries extends Sentences {
         worth("3*100%7", 0, 0, 6);
         worth("100%30%7", 0, 0, 3);
         worth("7/2*2", 0, 0, 6);
+        worth("7/1", 0, 0, 7);
+        worth("7%1+3", 0, 0, 3);
+        worth("0/7", 0, 0, 0);
         says("TERMS with + or -; a TERM: FACTORS with * / %", 0);
         year(0, 0, 0);
         worth("2+3*4", 0, 0, 14);

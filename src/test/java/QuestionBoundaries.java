@@ -23,6 +23,7 @@ public final class QuestionBoundaries extends Sentences {
         commonToTwo();
         commonBounds();
         linkedSteps();
+        linkedAgain();
         linkedRows();
         linkedBounds();
         regimeDates();
@@ -69,6 +70,9 @@ public final class QuestionBoundaries extends Sentences {
         clashesAre(1, 1);
         deals("0b]c0", 1);
         clashesAre(1, 1);
+        clashesAre(2, 0);
+        deals("0b[c;0b=c", 2);
+        clashesAre(1, 0);
         clashesAre(2, 0);
         says("of two LIVERS", 0, 0, 0);
         meeting(0, 5, 0, 2);
@@ -132,6 +136,30 @@ public final class QuestionBoundaries extends Sentences {
         says("the YEAR at place i of these that are in CLASHES; -2: no such place", 0, 0, 0);
         star(2, 20, 39);
         for (int i : new int[] {-1, 3, 12, LOW, HIGH}) back(2, i, 2, -2);
+        says("of those in CLASHES (of its own YEARS alone)", 0, 0, 0);
+        star(2, 20, 39);
+        meeting(0, 5, 0, 2);
+        meeting(1, 5, 1, 0);
+        deals("1b=c", 1);
+        back(2, 0, 0, 2);
+        back(2, 0, 1, 3);
+        back(2, 0, 2, 1);
+        back(2, 3, 2, 39);
+        back(2, 4, 2, -2);
+        back(0, 0, 0, 0);
+        back(0, 0, 2, -2);
+        says("(asked again when other YEARS clash)", 0, 0, 0, 0);
+        meeting(0, 5, 0, 6);
+        meeting(1, 5, 1, 4);
+        meeting(2, 5, 2, 0);
+        deals("0a=d;1b=d;2c=d", 3);
+        back(3, 0, 1, 3);
+        meeting(2, 5, 2, 1);
+        deals("2c=d", 1);
+        back(3, 0, 1, 2);
+        deals("1d=a", 1);
+        back(3, 0, 1, 0);
+        back(0, 0, 1, 0);
         says("(i is looked at by 2 alone)", 0, 0, 0);
         star(2, 20, 39);
         for (int i : new int[] {-1, 3, 99, LOW, HIGH}) {
@@ -266,6 +294,12 @@ public final class QuestionBoundaries extends Sentences {
         year(1, 6, 0);
         deals("0a=b", 1);
         deedsAre(2, 0, 1);
+        year(1, 4, 0);
+        deedsAre(2, 0, 1);
+        year(1, 0, 0);
+        deedsAre(2, 0, 1);
+        year(1, 5, 0);
+        deedsAre(2, 1, 0);
         says("(who owns: not who holds it in pawn)", 0, 0, 0);
         deed(0, 5, 0);
         year(1, 5, 2);
@@ -375,12 +409,19 @@ public final class QuestionBoundaries extends Sentences {
         skilled(1, 2, 1);
         law("v30-p(1=1)", 1);
         taught(0, 1, 28, 1, 1);
+        deals("1c=b", 1);
+        taught(0, 1, 29, 1, 1);
+        deals("1b=c", 1);
         law("v5+p(1=1);n(z=6)", 2);
         taught(0, 1, 7, 1, 1);
         law("v5+p(1=1);n(z=7)", 2);
         taught(0, 1, 6, 1, 1);
         law("v5+p(1=1);n(z=5|z=0)", 2);
         taught(0, 1, 6, 1, 1);
+        says("(z is not told where v is asked)", 50, 50);
+        skilled(0, 1, 1);
+        law("v5+z(z=0)", 1);
+        taught(0, 1, 5, 1, 1);
         says("n (of it as the buyer)", 50, 50, 50);
         skilled(0, 2, 1);
         law("v5(1=1);n(p=0)", 2);
@@ -453,6 +494,13 @@ public final class QuestionBoundaries extends Sentences {
         for (int n = 1; n <= 5; n++) {
             for (int p = 0; p < n; p++) shareIs((1 << n) - 1, p, above[n - 1], below[n - 1]);
         }
+        says("(of the last of eight, too)", 0, 0, 0, 0, 0, 0, 0, 0);
+        skilled(0, 7, 1);
+        skilled(1, 0, 1);
+        shareIs(128, 7, 100, 1);
+        shareIs(129, 7, 50, 1);
+        shareIs(129, 0, 50, 1);
+        shareIs(3, 0, 100, 1);
         says("(of SKILLS that some know and some do not)", 0, 0, 0, 0, 0);
         skilled(0, 0, 7);
         skilled(1, 1, 3);
@@ -706,6 +754,21 @@ public final class QuestionBoundaries extends Sentences {
         linkedIs(0, 1, -1, 1);
         linkedIs(0, 2, -1, -2);
         linkedIs(0, 3, -1, -2);
+    }
+
+    private static void linkedAgain() {
+        says("(asked again when a YEAR is told anew, or undone)", 0, 0, 0);
+        x.keep();
+        year(0, 0, 0);
+        year(1, 0, 1);
+        deals("0a=b;1b=c", 2);
+        linkedIs(0, 2, -1, 2);
+        year(1, 0, 2);
+        linkedIs(0, 2, -1, -2);
+        linkedIs(0, 1, -1, 1);
+        yes("undo", x.undo());
+        linkedIs(0, 1, -1, -2);
+        linkedIs(0, 0, -1, 0);
     }
 
     private static void linkedRows() {
