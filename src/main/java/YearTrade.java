@@ -32,6 +32,13 @@ public final class YearTrade {
     private static final int LOOKED_AT = 12;
     private static final int SOLD = 6;
     private static final int SHARED = 5;
+    /** The least number that can be shared alike among one to five. */
+    private static final int PARTS = 60;
+
+    private static final int HANDS_FROM = 20;
+    private static final int PAYS_FROM = 20;
+    private static final int AGES_FROM = 10;
+    private static final int AS_A_WHOLE = 10;
 
     private final Tape tape = new Tape();
     private final Text text = new Text();
@@ -123,7 +130,7 @@ public final class YearTrade {
             case 7: return book.holder[y];
             case 8: return book.owed[y];
             case 9: return book.handCount[y];
-            default: return book.handAt(y, what < HALF ? NONE : what - HALF);
+            default: return book.handAt(y, what < HANDS_FROM ? NONE : what - HANDS_FROM);
         }
     }
 
@@ -189,10 +196,10 @@ public final class YearTrade {
     public int share(int people, int p, int what) {
         if (!book.hasGroup(people) || !book.hasPerson(p) || what < 0 || what > 1) return NONE;
         if (Integer.bitCount(people) > SHARED || (people >> p & 1) == 0) return NONE;
-        int sixtieths = 100 * shop.sixtiethsOf(book, people, p);
-        int common = commonDivisor(sixtieths, 60);
+        int above = 100 * shop.partsOf(book, people, p);
+        int common = commonDivisor(above, PARTS);
         if (common == 0) return NONE;
-        return (what == 0 ? sixtieths : 60) / common;
+        return (what == 0 ? above : PARTS) / common;
     }
 
     public int sold(int n, int people, int what) {
@@ -200,21 +207,21 @@ public final class YearTrade {
         text.take(tape, n);
         if (!fair.readSale(book, text)) return NOT_SO;
         if (!book.hasGroup(people)) return NO_PLACE;
-        int buyer = what - HALF;
+        int buyer = what - PAYS_FROM;
         boolean buys = buyer >= 0 && buyer < PEOPLE && (people >> buyer & 1) != 0;
-        if (!buys && what != 10 && (what < 0 || what >= n)) return NO_PLACE;
+        if (!buys && what != AS_A_WHOLE && (what < 0 || what >= n)) return NO_PLACE;
         fair.sell(book, theLaw, people);
         if (buys) return fair.pays(people, buyer);
-        return what == 10 ? fair.together(people) : fair.getsAt(what);
+        return what == AS_A_WHOLE ? fair.together(people) : fair.getsAt(what);
     }
 
     public int ring(int n, int what) {
         if (!tape.has(n, PEOPLE)) return NONE;
         text.take(tape, n);
         if (!fair.readRing(book, text)) return NOT_SO;
-        if (what != 10 && (what < 0 || what >= n)) return NO_PLACE;
+        if (what != AS_A_WHOLE && (what < 0 || what >= n)) return NO_PLACE;
         fair.turn(book, theLaw);
-        return what == 10 ? fair.changed() : fair.getsAt(what);
+        return what == AS_A_WHOLE ? fair.changed() : fair.getsAt(what);
     }
 
     public long forged(int y, int what) {
@@ -243,7 +250,7 @@ public final class YearTrade {
     }
 
     public int tried(int n, int what) {
-        int p = what - 10;
+        int p = what - AGES_FROM;
         if (n < 1 || n > MOST_DAYS || (what != 0 && what != 1 && !book.hasPerson(p))) return NONE;
         trial.copy(book);
         int falls = calendar.pass(trial, theLaw, n);
@@ -1287,8 +1294,8 @@ public final class YearTrade {
             }
         }
 
-        /** Each skill's 60 are shared alike by those of the group who know it. */
-        int sixtiethsOf(Book book, int group, int p) {
+        /** By all orders on the mean, each skill is shared alike by those of the group who know it. */
+        int partsOf(Book book, int group, int p) {
             if (p < 0 || p >= PEOPLE) return 0;
             for (int q = 0; q < PEOPLE; q++) {
                 known[q] = (group >> q & 1) != 0 ? book.taughtBy(book.owned(q)) : 0;
@@ -1296,7 +1303,7 @@ public final class YearTrade {
             int sum = 0;
             for (int skill = 0; skill < SKILLS; skill++) {
                 int knowers = knowersOf(skill);
-                if ((known[p] >> skill & 1) != 0 && knowers > 0) sum += 60 / knowers;
+                if ((known[p] >> skill & 1) != 0 && knowers > 0) sum += PARTS / knowers;
             }
             return sum;
         }
